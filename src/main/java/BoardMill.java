@@ -46,7 +46,6 @@ public final class BoardMill {
     private DesignObjects spareObjects;
     private final SheetReader reader;
     private int textsRead;
-    private int textsGood;
     private final Drawing drawing;
     private final Board grid;
     private final Router router;
@@ -63,8 +62,8 @@ public final class BoardMill {
     public BoardMill() {
         objects = new DesignObjects();
         spareObjects = new DesignObjects();
-        reader = new SheetReader();
-        drawing = new Drawing();
+        reader = new SheetReader(spareObjects);
+        drawing = new Drawing(objects);
         grid = new Board();
         router = new Router(grid);
         rules = new Rows(RULES);
@@ -140,7 +139,7 @@ public final class BoardMill {
         if (form != 0 && form != 1) {
             return answer(-NOT_SO);
         }
-        if (textsRead >= TEXTS_READ || textsGood >= TEXTS_GOOD) {
+        if (textsRead >= TEXTS_READ || drawing.timesDrawn >= TEXTS_GOOD) {
             return answer(-FULL);
         }
         textsRead++;
@@ -149,7 +148,6 @@ public final class BoardMill {
         if (fault != NONE) {
             return faultAt(fault);
         }
-        textsGood++;
         DesignObjects before = objects;
         objects = spareObjects;
         spareObjects = before;
@@ -189,7 +187,7 @@ public final class BoardMill {
     // ---- boards ----
 
     public int board(int x, int y, int layers, long seed) {
-        if (textsGood == 0) {
+        if (drawing.timesDrawn == 0) {
             return answer(-NOT_YET);
         }
         if (grid.number + 1 >= BOARDS) {
@@ -477,16 +475,13 @@ public final class BoardMill {
             return count - 1;
         }
 
-        boolean has(int row, int column) {
-            return row >= 0 && row < count && column >= 0 && column < WIDTH;
-        }
-
         int at(int row, int column) {
-            return has(row, column) ? cells[row * WIDTH + column] : NONE;
+            boolean there = row >= 0 && row < count && column >= 0 && column < WIDTH;
+            return there ? cells[row * WIDTH + column] : NONE;
         }
 
         void set(int row, int column, int value) {
-            if (has(row, column)) {
+            if (row >= 0 && row < count && column >= 0 && column < WIDTH) {
                 cells[row * WIDTH + column] = value;
             }
         }
@@ -631,15 +626,20 @@ public final class BoardMill {
             return isObject(k) ? textLengths[k * TEXTS + which] : 0;
         }
 
+        /** A character of a text that is there. */
+        private char letterIn(int k, int which, int i) {
+            return chars[textStarts[k * TEXTS + which] + i];
+        }
+
         /** A character of a text, or NONE behind it. */
         int textLetter(int k, int which, int i) {
-            return i >= 0 && i < textLength(k, which) ? chars[textStarts[k * TEXTS + which] + i] : NONE;
+            return i >= 0 && i < textLength(k, which) ? letterIn(k, which, i) : NONE;
         }
 
         boolean textIs(int k, int which, String word) {
             boolean same = textLength(k, which) == word.length();
             for (int i = 0; i < word.length() && same; i++) {
-                same = textLetter(k, which, i) == word.charAt(i);
+                same = letterIn(k, which, i) == word.charAt(i);
             }
             return same;
         }
@@ -647,7 +647,7 @@ public final class BoardMill {
         boolean sameText(int k, int which, int other, int otherWhich) {
             boolean same = textLength(k, which) == textLength(other, otherWhich);
             for (int i = 0; i < textLength(k, which) && same; i++) {
-                same = textLetter(k, which, i) == textLetter(other, otherWhich, i);
+                same = letterIn(k, which, i) == letterIn(other, otherWhich, i);
             }
             return same;
         }
@@ -756,7 +756,7 @@ public final class BoardMill {
         private void emitQuoted(int k, int which) {
             emit('"');
             for (int i = 0; i < textLength(k, which); i++) {
-                char c = (char) textLetter(k, which, i);
+                char c = letterIn(k, which, i);
                 if (c == '"' || c == '\\') {
                     emit('\\');
                 }
@@ -767,7 +767,7 @@ public final class BoardMill {
 
         private void emitText(int k, int which) {
             for (int i = 0; i < textLength(k, which); i++) {
-                emit((char) textLetter(k, which, i));
+                emit(letterIn(k, which, i));
             }
         }
 
@@ -796,6 +796,7 @@ public final class BoardMill {
         private static final int MOST_OPEN = 100;
         private static final int TEXT_LENGTH = 40;
         private static final long FARTHEST = 1000000000;
+        private static final long[] TENS = {1, 10, 100, 1000, 10000, 100000, 1000000};
         // for each kind the kinds that it may be in, a bit each
         private static final int[] HOLDERS = {0, 3, 2, 4, 8, 8, 10, 2, 6, 15};
 
@@ -808,9 +809,9 @@ public final class BoardMill {
         private boolean nested;
         private DesignObjects objects;
 
-        SheetReader() {
+        SheetReader(DesignObjects objects) {
+            this.objects = objects;
             text = new char[0];
-            objects = null;
         }
 
         /** The place of the text's fault, or NONE. */
@@ -996,6 +997,9 @@ public final class BoardMill {
             int numbersDone = 0;
             for (int f = 0; f < count && fault == NONE; f++) {
                 readGap();
+                if (fault != NONE) {
+                    return;
+                }
                 if (fields.charAt(f) == 'T') {
                     readText(k, textsDone);
                     textsDone++;
@@ -1008,11 +1012,22 @@ public final class BoardMill {
 
         private void readNumber(int k, char field, int what) {
             int valueAt = place;
-            long value = field == 'N' ? takeLength() : takeWhole();
-            if (fault != NONE) {
-                return;
+            boolean minus = peek() == '-';
+            if (minus) {
+                place++;
             }
-            if (value < least(field) || value > greatest(field)) {
+            long value = takeDigits(4);
+            if (field == 'N') {
+                value *= TENS[6];
+            }
+            if (field == 'N' && fault == NONE && peek() == '.') {
+                place++;
+                int from = place;
+                long part = takeDigits(6);
+                value += part * TENS[6 - (place - from)];
+            }
+            value = minus ? -value : value;
+            if (fault == NONE && (value < least(field) || value > greatest(field))) {
                 fail(valueAt);
             } else if (field == 'V') {
                 version = (int) value;
@@ -1041,35 +1056,6 @@ public final class BoardMill {
             }
         }
 
-        private long takeWhole() {
-            boolean minus = takeMinus();
-            long value = takeDigits(4);
-            return minus ? -value : value;
-        }
-
-        private long takeLength() {
-            boolean minus = takeMinus();
-            long value = takeDigits(4) * 1000000;
-            if (peek() == '.' && fault == NONE) {
-                place++;
-                int from = place;
-                long part = takeDigits(6);
-                for (int digits = place - from; digits < 6; digits++) {
-                    part *= 10;
-                }
-                value += part;
-            }
-            return minus ? -value : value;
-        }
-
-        private boolean takeMinus() {
-            boolean minus = fault == NONE && peek() == '-';
-            if (minus) {
-                place++;
-            }
-            return minus;
-        }
-
         /** One to so many digits; one more is a fault. */
         private long takeDigits(int most) {
             long value = 0;
@@ -1089,7 +1075,7 @@ public final class BoardMill {
         }
 
         private void readText(int k, int which) {
-            if (fault != NONE || peek() != '"') {
+            if (peek() != '"') {
                 fail(place);
                 return;
             }
@@ -1251,9 +1237,10 @@ public final class BoardMill {
         private final int[] remarks = new int[LABELS * COPIES + LABELS];
         private int remarkCount;
         int netCount;
+        int timesDrawn;
 
-        Drawing() {
-            objects = null;
+        Drawing(DesignObjects objects) {
+            this.objects = objects;
         }
 
         int netOfCopy(int terminal, int copy) {
@@ -1272,6 +1259,7 @@ public final class BoardMill {
 
         void draw(DesignObjects newObjects) {
             objects = newObjects;
+            timesDrawn++;
             findSheets();
             gather();
             joinAll();
@@ -1636,6 +1624,7 @@ public final class BoardMill {
     private static final class Board {
         private static final int PADS = 40;
         private static final int PADS_OF_NET = 5;
+        static final int SIDES = 6;
         // the columns of nets
         static final int SHEET_NET = 0;
         static final int PAD_COUNT = 1;
@@ -1649,6 +1638,7 @@ public final class BoardMill {
         int height = 1;
         int layers = 1;
         long seed;
+        private final int[] neighbours = new int[CELLS * SIDES];
         final boolean[] barred = new boolean[CELLS];
         final int[] history = new int[CELLS];
         final int[] holders = new int[CELLS]; // the route net that holds a cell
@@ -1679,6 +1669,7 @@ public final class BoardMill {
             for (int l = 0; l < 4; l++) {
                 setCosts(l, 0, 0, 0);
             }
+            findNeighbours();
         }
 
         void takeNets(Drawing drawing) {
@@ -1710,19 +1701,23 @@ public final class BoardMill {
             return cell % width;
         }
 
-        /** The neighbours by rising numbers: 0 a layer lower, 1 and 4 along j, 2 and 3 along i, 5 a layer higher. */
+        /** The sides by rising numbers of the neighbours: 0 a layer lower, 1 and 4 along j, 2 and 3 along i, 5 a layer higher. */
         int neighbour(int cell, int side) {
-            int layer = layerOf(cell);
-            int i = columnOf(cell);
-            int j = rowOf(cell);
-            switch (side) {
-                case 0: return cellAt(layer - 1, i, j);
-                case 1: return cellAt(layer, i, j - 1);
-                case 2: return cellAt(layer, i - 1, j);
-                case 3: return cellAt(layer, i + 1, j);
-                case 4: return cellAt(layer, i, j + 1);
-                case 5: return cellAt(layer + 1, i, j);
-                default: return NONE;
+            return neighbours[cell * SIDES + side];
+        }
+
+        private void findNeighbours() {
+            for (int cell = 0; cell < width * height * layers; cell++) {
+                int layer = layerOf(cell);
+                int i = columnOf(cell);
+                int j = rowOf(cell);
+                int from = cell * SIDES;
+                neighbours[from] = cellAt(layer - 1, i, j);
+                neighbours[from + 1] = cellAt(layer, i, j - 1);
+                neighbours[from + 2] = cellAt(layer, i - 1, j);
+                neighbours[from + 3] = cellAt(layer, i + 1, j);
+                neighbours[from + 4] = cellAt(layer, i, j + 1);
+                neighbours[from + 5] = cellAt(layer + 1, i, j);
             }
         }
 
@@ -1916,7 +1911,7 @@ public final class BoardMill {
         private static final long FACTOR = 6364136223846793005L;
         private static final long ADDEND = 1442695040888963407L;
         private static final int RIPPING_COST = 100;
-        private static final int SIDES = 6;
+        private static final int SIDES = Board.SIDES;
         // each cell comes at most once by each of its sides, and once as a cell of the tree
         private static final int HEAP = CELLS * (SIDES + 1);
 
@@ -2013,14 +2008,15 @@ public final class BoardMill {
             return NONE;
         }
 
-        private boolean isOutside(int pad, int net) {
-            return board.padNet(pad) == net && !inTree[board.padCell(pad)];
+        /** Whether a cell is that of a pad of a net that its tree does not have yet. */
+        private boolean isOutside(int cell, int net) {
+            return board.padAt[cell] != NONE && board.holders[cell] == net && !inTree[cell];
         }
 
         private boolean treeHasAllPads(int net) {
             boolean all = true;
             for (int p = 0; p < board.pads.count && all; p++) {
-                all = !isOutside(p, net);
+                all = !isOutside(board.padCell(p), net);
             }
             return all;
         }
@@ -2046,20 +2042,16 @@ public final class BoardMill {
                     break;
                 }
                 if (distance == distances[cell]) {
-                    best = best == NONE && isPadOutside(cell, net) ? distance : best;
+                    best = best == NONE && isOutside(cell, net) ? distance : best;
                     spread(cell);
                 }
             }
             return best == NONE ? NONE : padAtDistance(net, best);
         }
 
-        private boolean isPadOutside(int cell, int net) {
-            return board.padAt[cell] != NONE && isOutside(board.padAt[cell], net);
-        }
-
         private int padAtDistance(int net, int distance) {
             for (int p = 0; p < board.pads.count; p++) {
-                if (isOutside(p, net) && distances[board.padCell(p)] == distance) {
+                if (isOutside(board.padCell(p), net) && distances[board.padCell(p)] == distance) {
                     return p;
                 }
             }
@@ -2102,8 +2094,7 @@ public final class BoardMill {
             heapSize--;
             long value = heap[heapSize];
             int at = 0;
-            int child = 1;
-            for (; child < heapSize; child = 2 * at + 1) {
+            for (int child = 1; child < heapSize; child = 2 * child + 1) {
                 if (child + 1 < heapSize && heap[child + 1] < heap[child]) {
                     child++;
                 }
@@ -2213,7 +2204,7 @@ public final class BoardMill {
         int shortCount;
         private final int[] faults = new int[FAULTS]; // in one number what orders them
         int faultCount;
-        private final int[] holeShapes = new int[SHAPES];
+        private final int[] holes = new int[SHAPES]; // layer * ROW * ROW + place
         private int holeCount;
         private final int[] order = new int[SHAPES];
         private final int[] travels = new int[(1 << FEW_HOLES) * FEW_HOLES];
@@ -2335,16 +2326,14 @@ public final class BoardMill {
             return PITCH * (alongX ? place % ROW : place / ROW);
         }
 
-        /** How far the lines of two shapes are from one another along x or y, when each is so much wider. */
-        private long gap(int a, int b, boolean alongX, int wider) {
-            int ahead = edge(b, alongX, false) - edge(a, alongX, true) - wider;
-            int behind = edge(a, alongX, false) - edge(b, alongX, true) - wider;
-            return Math.max(0, Math.max(ahead, behind));
+        /** How far two lines are from one another along x or y, when both together are so much wider. */
+        private static long gap(int from, int to, int otherFrom, int otherTo, int wider) {
+            return Math.max(0, Math.max(otherFrom - to, from - otherTo) - wider);
         }
 
         private long squareBetween(int a, int b, int wider) {
-            long x = gap(a, b, true, wider);
-            long y = gap(a, b, false, wider);
+            long x = gap(edge(a, true, false), edge(a, true, true), edge(b, true, false), edge(b, true, true), wider);
+            long y = gap(edge(a, false, false), edge(a, false, true), edge(b, false, false), edge(b, false, true), wider);
             return x * x + y * y;
         }
 
@@ -2575,13 +2564,13 @@ public final class BoardMill {
 
         /** Whether an end of a track lies in other copper of its net. */
         private boolean endLies(int track, boolean atEnd) {
-            long x = edge(track, true, atEnd);
-            long y = edge(track, false, atEnd);
+            int x = edge(track, true, atEnd);
+            int y = edge(track, false, atEnd);
             boolean found = false;
             for (int s = 0; s < shapes.count && !found; s++) {
                 boolean may = s != track && isCopper(s) && netOfShape(s) == netOfShape(track) && layerOf(s) == layerOf(track);
-                long alongX = Math.max(0, Math.max(edge(s, true, false) - x, x - edge(s, true, true)));
-                long alongY = Math.max(0, Math.max(edge(s, false, false) - y, y - edge(s, false, true)));
+                long alongX = gap(x, x, edge(s, true, false), edge(s, true, true), 0);
+                long alongY = gap(y, y, edge(s, false, false), edge(s, false, true), 0);
                 long reach = radiusOf(s);
                 found = may && alongX * alongX + alongY * alongY <= reach * reach;
             }
@@ -2618,7 +2607,7 @@ public final class BoardMill {
             holeCount = 0;
             for (int s = 0; s < shapes.count; s++) {
                 if (classOf(s) == HOLE) {
-                    holeShapes[holeCount] = s;
+                    holes[holeCount] = layerOf(s) * ROW * ROW + shapes.at(s, 3);
                     holeCount++;
                 }
             }
@@ -2629,13 +2618,21 @@ public final class BoardMill {
             }
         }
 
+        private static int xOf(int hole) {
+            return PITCH * (hole % ROW);
+        }
+
+        private static int yOf(int hole) {
+            return PITCH * (hole / ROW % ROW);
+        }
+
         /** The way to a hole from another one, or (NONE) from 0, 0. */
         private int wayBetween(int from, int to) {
-            int x = edge(holeShapes[to], true, false);
-            int y = edge(holeShapes[to], false, false);
+            int x = xOf(holes[to]);
+            int y = yOf(holes[to]);
             if (from != NONE) {
-                x -= edge(holeShapes[from], true, false);
-                y -= edge(holeShapes[from], false, false);
+                x -= xOf(holes[from]);
+                y -= yOf(holes[from]);
             }
             return Math.max(Math.abs(x), Math.abs(y));
         }
@@ -2645,7 +2642,8 @@ public final class BoardMill {
             int all = (1 << holeCount) - 1;
             for (int drilled = all; drilled > 0; drilled--) {
                 for (int last = 0; last < holeCount; last++) {
-                    travels[drilled * FEW_HOLES + last] = leastTravel(drilled, last);
+                    int next = nextOfLeastTravel(drilled, last);
+                    travels[drilled * FEW_HOLES + last] = next == NONE ? 0 : travelBy(drilled, last, next);
                 }
             }
             int drilled = 0;
@@ -2672,11 +2670,6 @@ public final class BoardMill {
             return next;
         }
 
-        private int leastTravel(int drilled, int last) {
-            int next = nextOfLeastTravel(drilled, last);
-            return next == NONE ? 0 : travelBy(drilled, last, next);
-        }
-
         private void orderManyHoles() {
             long drilled = 0;
             int last = NONE;
@@ -2696,21 +2689,24 @@ public final class BoardMill {
 
         // ---- the drill text ----
 
-        /** The next one in the order, from there on, that is a hole of a layer; holeCount behind the last one. */
-        private int nextHole(int from, int layer) {
-            int n = from;
-            for (; n < holeCount && layerOf(holeShapes[order[n]]) != layer; n++) {
-                // a hole of another layer
+        private boolean isHoleOf(int n, int layer) {
+            return holes[order[n]] / (ROW * ROW) == layer;
+        }
+
+        private int countHoles(int layer) {
+            int count = 0;
+            for (int n = 0; n < holeCount; n++) {
+                count += isHoleOf(n, layer) ? 1 : 0;
             }
-            return n;
+            return count;
         }
 
         private int holeX(int n) {
-            return edge(holeShapes[order[n]], true, false);
+            return xOf(holes[order[n]]);
         }
 
         private int holeY(int n) {
-            return edge(holeShapes[order[n]], false, false);
+            return yOf(holes[order[n]]);
         }
 
         void writeDrill(int layer) {
@@ -2720,16 +2716,17 @@ public final class BoardMill {
             emitWord(",");
             emitNumber(layer + 1);
             emitWord("\nT0C300P\n%\n");
-            int n = nextHole(0, layer);
-            if (n < holeCount) {
+            if (countHoles(layer) > 0) {
                 emitWord("T0\n");
             }
-            for (; n < holeCount; n = nextHole(n + 1, layer)) {
-                emitWord("X");
-                emitNumber(holeX(n));
-                emitWord("Y");
-                emitNumber(holeY(n));
-                emitWord("\n");
+            for (int n = 0; n < holeCount; n++) {
+                if (isHoleOf(n, layer)) {
+                    emitWord("X");
+                    emitNumber(holeX(n));
+                    emitWord("Y");
+                    emitNumber(holeY(n));
+                    emitWord("\n");
+                }
             }
             emitWord("M30\n");
         }
@@ -2768,13 +2765,12 @@ public final class BoardMill {
             readAt = 0;
             boolean good = takeWord("M48\nL") && takeNumber() == layer && takeWord(",")
                 && takeNumber() == layer + 1 && takeWord("\nT0C300P\n%\n");
-            int n = nextHole(0, layer);
-            if (n < holeCount) {
+            if (countHoles(layer) > 0) {
                 good = good && takeWord("T0\n");
             }
-            for (; n < holeCount && good; n = nextHole(n + 1, layer)) {
-                good = takeWord("X") && takeNumber() == holeX(n)
-                    && takeWord("Y") && takeNumber() == holeY(n) && takeWord("\n");
+            for (int n = 0; n < holeCount && good; n++) {
+                good = !isHoleOf(n, layer) || (takeWord("X") && takeNumber() == holeX(n)
+                    && takeWord("Y") && takeNumber() == holeY(n) && takeWord("\n"));
             }
             return good && takeWord("M30\n") && readAt == drillLength ? 1 : 0;
         }
@@ -2881,7 +2877,7 @@ public final class BoardMill {
         }
 
         private void take(int c) {
-            if (isNext(c)) {
+            if (fault == NONE && letter(place) == c) {
                 place++;
             } else {
                 fail(place);
@@ -2915,7 +2911,12 @@ public final class BoardMill {
             } else if (isFunction(c)) {
                 place++;
             } else if (c == '@' || c == '\'') {
-                readTarget();
+                // the sign of the statement's own is not counted
+                place++;
+                readAtom(0);
+                if (c == '@') {
+                    readField();
+                }
                 take('=');
                 readExpression(0);
             } else if (c == '!' || c == '^' || c == '+' || c == '&' || c == '|' || c == '<') {
@@ -2925,16 +2926,6 @@ public final class BoardMill {
                 fail(place);
             }
             take(';');
-        }
-
-        /** The @A:d or 'A ahead of a =, whose own sign is not counted. */
-        private void readTarget() {
-            boolean field = letter(place) == '@';
-            place++;
-            readAtom(0);
-            if (field) {
-                readField();
-            }
         }
 
         private void readBlocks(int c, int depth) {
@@ -3141,7 +3132,9 @@ public final class BoardMill {
             if (k < 0 || k >= demandCount) {
                 return NONE;
             }
-            long value = reckon(demands[k]);
+            cursor = demands[k];
+            raised = 0;
+            long value = expression(0);
             if (raised != 0) {
                 return -2;
             }
@@ -3394,15 +3387,11 @@ public final class BoardMill {
 
         // ---- expressions: the first error is kept, and the cursor goes to the end all the same ----
 
-        private long reckon(int from) {
-            cursor = from;
-            raised = 0;
-            return expression(0);
-        }
-
         /** Reckons for the statement at a place, whose error it is. */
         private long reckonIn(int from, int at) {
-            long value = reckon(from);
+            cursor = from;
+            raised = 0;
+            long value = expression(0);
             if (raised != 0) {
                 fail(raised, at, 0);
             }
