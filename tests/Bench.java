@@ -95,3 +95,24 @@ final class Bench {
         return all;
     }
 }
+
+/** A sheet of sixty terminals of so many nets, terminal t of net t modulo them. */
+final class Sixty {
+    static Bench drawn(int nets) {
+        Bench b = new Bench();
+        Bench.due("sheets", b.sheets(1, sheet(nets)), 124);
+        Bench.due("nets()", b.mill.nets(), nets);
+        return b;
+    }
+
+    private static String sheet(int nets) {
+        StringBuilder text = new StringBuilder("design 3\n.sheet 0 \"\"\n..symbol 0 0 \"\"\n...unit 1\n");
+        for (int t = 0; t < 60; t++) {
+            text.append("....pin ").append(t).append(" 0 \"\" 0\n");
+        }
+        for (int t = 0; t < 60; t++) {
+            text.append("..note ").append(t).append(" 0 \"").append(t % nets).append("\" 1\n");
+        }
+        return text.toString();
+    }
+}
