@@ -17,6 +17,7 @@ public final class JoinTest {
         sheetsBeyondRoom();
         rooms();
         farPlaces();
+        fullSheets();
         drawingStays();
         Bench.finish("JoinTest");
     }
@@ -291,6 +292,30 @@ public final class JoinTest {
         Bench c = drawn(".sheet 0 \"x\"", pins("-1000 1000", "1000 -999.999999", "999.999999 -999.999998", "-0.000001 0.5"),
             "..wire -1000 1000 1000 -999.999999");
         netsAre(c, 0, 0, 1, 2);
+    }
+
+    /** Sixty labels in sixteen copies, all at a terminal or all alone. */
+    private static void fullSheets() {
+        for (int alone = 0; alone < 2; alone++) {
+            StringBuilder text = new StringBuilder(".sheet 0 \"x\"\n" + pins("0 0", "1 1"));
+            for (int n = 0; n < 60; n++) {
+                text.append("\n..note ").append(alone).append(" 0 \"").append(n).append("\" 1");
+            }
+            text.append(alone == 1 ? "\n..note 1 1 \"30\" 1" : "");
+            for (int n = 0; n < 15; n++) {
+                text.append("\n.sheet 0 \"r\"\n..field \"of\" \"x\"");
+            }
+            Bench b = drawn(text.toString());
+            Bench.due("nets()", b.mill.nets(), 32);
+            List<Integer> remarks = b.remarks();
+            Bench.due("remarks", remarks.size(), alone == 1 ? 60 : 16 * 59);
+            for (int k = 0; k < remarks.size(); k++) {
+                int want = alone == 1 ? 100000000 + k : k / 59 * 1000 + k % 59 + 1;
+                Bench.due("remark(" + k + ")", remarks.get(k), want);
+            }
+            Bench.due("nameOf(15)", b.mill.nameOf(15), alone == 1 ? -1 : 0);
+            Bench.due("nameOf(16)", b.mill.nameOf(16), -2);
+        }
     }
 
     private static void drawingStays() {

@@ -950,8 +950,8 @@ public final class BoardMill {
         /** Reads a NAME and adds its object; NONE when there is a fault. */
         private int readName(int parent) {
             int nameAt = place;
-            for (; place < length && text[place] >= 'a' && text[place] <= 'z'; place++) {
-                // the name goes on
+            while (place < length && text[place] >= 'a' && text[place] <= 'z') {
+                place++;
             }
             if (place == nameAt) {
                 fail(place);
@@ -1121,8 +1121,8 @@ public final class BoardMill {
         }
 
         private void skipBlanks() {
-            for (; place < length && (text[place] == ' ' || text[place] == '\n'); place++) {
-                // a blank
+            while (place < length && (text[place] == ' ' || text[place] == '\n')) {
+                place++;
             }
         }
 
@@ -2848,8 +2848,8 @@ public final class BoardMill {
         /** The place behind the ; that is next. */
         int behindSemicolon(int at) {
             int next = at;
-            for (; next < length && text[next] != ';'; next++) {
-                // what is in the statement
+            while (next < length && text[next] != ';') {
+                next++;
             }
             return next + 1;
         }
