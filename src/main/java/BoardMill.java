@@ -1737,14 +1737,15 @@ public final class BoardMill {
 
         /** What each step to a cell costs by its near others and its history. */
         int entryCost(int cell, int net) {
-            int count = 0;
-            for (int side = 1; side <= 4; side++) {
+            int each = near[layerOf(cell)];
+            int cost = history[cell];
+            for (int side = 1; side <= 4 && each > 0; side++) {
                 int beside = neighbour(cell, side);
                 if (beside != NONE && isHeldByOther(beside, net)) {
-                    count++;
+                    cost += each;
                 }
             }
-            return count * near[layerOf(cell)] + history[cell];
+            return cost;
         }
 
         boolean isHeldByOther(int cell, int net) {
