@@ -9,6 +9,7 @@ public final class BoardTest {
         routeNetsOfTaken();
         bars();
         costs();
+        newCosts();
         routes();
         wayOrder();
         acrossAndVia();
@@ -204,6 +205,25 @@ public final class BoardTest {
             Bench.due("cost", b.mill.cost(w[0], w[1], w[2], w[3]), false);
             b.told(2);
         }
+    }
+
+    /** A new board has none of what the one before had. */
+    private static void newCosts() {
+        Bench b = board(12, 4, 4, 2);
+        b.mill.cost(0, 50, 50, 50);
+        b.mill.cost(1, 50, 50, 50);
+        b.mill.board(4, 4, 2, 1);
+        put(b, 0, 0, 0, 0, 0);
+        put(b, 12, 1, 3, 3, 1);
+        b.mill.route(1);
+        Bench.due("costOf", b.mill.costOf(0), 14);
+        b.mill.cost(0, 50, 50, 50);
+        b.mill.cost(1, 50, 50, 50);
+        Bench.due("costs change no way that is led", b.mill.costOf(0), 14);
+        put(b, 24, 0, 0, 3, 2);
+        b.mill.route(1);
+        // along i, down, along j; then up, and along i
+        Bench.due("costOf", b.mill.costOf(0), 6 + 52 + 6 + 52 + 6);
     }
 
     private static void routes() {

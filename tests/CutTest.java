@@ -18,6 +18,7 @@ public final class CutTest {
         holesOfOneStack();
         ends();
         airlines();
+        airlinesOfOneLength();
         drillTexts();
         for (int n = 0; n < 1500; n++) {
             oneCut();
@@ -293,6 +294,21 @@ public final class CutTest {
         Bench.due("copper", b.mill.copper(7), -1);
         Bench.due("copper", b.mill.copper(-1), -1);
         Bench.due("shorts", b.mill.shorts(), 0);
+    }
+
+    /** Of pairs of one distance the one of the lower pads: 5 and 0 are as far as 3 and 4. */
+    private static void airlinesOfOneLength() {
+        Bench b = Sixty.drawn(1);
+        b.mill.board(16, 16, 1, 0);
+        b.mill.put(0, 0, 0, 0, 0);
+        b.mill.put(1, 0, 0, 5, 0);
+        b.mill.put(2, 0, 0, 3, 4);
+        b.mill.cut();
+        int[] want = {1, 2, 0, 1};
+        for (int n = 0; n < 4; n++) {
+            Bench.due("airline", b.mill.airline(0, n / 2, n % 2), want[n]);
+        }
+        Bench.due("airline", b.mill.airline(0, 2, 0), -1);
     }
 
     private static void drillTexts() {

@@ -312,6 +312,9 @@ public final class ScriptTest {
         Bench g = fails("*i<12{+i+1;@i:5=i*i;i=i+1;}[i=0;*i<12{@i:5=7;@i:0=8;i=i+1;}$^1;]", 4, 1);
         g.program("*i<12{!@i:0;!@i:5;i=i+1;}");
         runs(g, "twelve facts are put back", 99, 0, 1, 0, 2, 1, 3, 4, 4, 9, 5, 16, 6, 25, 7, 36, 8, 49, 9, 64, 10, 81, 11, 100, 12, 121);
+        Bench h = fails("*i<9{+i;i=i+1;}[@2:0=70;@3:0=71;@8:5=72;[@2:0=80;@3:0=81;@8:5=82;@0:0=83;$^1;]]", 4, 1);
+        h.program("!@0:0;!@2:0;!@3:0;!@8:0;!@8:5;");
+        runs(h, "each act has its own", 99, 0, 0, 2, 3, 8, 0);
         Bench f = fails("+1;:F{[@0:0=8;$^3;]}[F;]", 4, 3);
         f.program("!#;!@0:0;");
         runs(f, "an act in a function", 9, 0, 1, 1);

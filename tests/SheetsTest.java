@@ -36,6 +36,7 @@ public final class SheetsTest {
         faultsOfLines();
         faultsOfNames();
         faultsOfValues();
+        threeTexts();
         unknowns();
         unknownRoom();
         objectRoom();
@@ -306,6 +307,21 @@ public final class SheetsTest {
         fault(0, "(design 3(sheet 1 \"a|\nb");
         fault(0, "(design 3(sheet 1 \"a|");
         reads(0, "(design 3(sheet 1 \"()\"))", 2);
+    }
+
+    /** A text's objects have nothing of the texts before it. */
+    private static void threeTexts() {
+        Bench b = new Bench();
+        for (int n = 0; n < 2; n++) {
+            b.sheets(1, "design 3\n.sheet 1 \"\"\n..wire 1 2 3 4\n..wire 5 6 7 8\n..note 1 2 \"x\" 3\n..symbol 4 5 \"\"\n...unit 6\n....arc 1 2 3 4 5\n");
+        }
+        b.sheets(1, "design 1\n.sheet 1 \"\"\n..field \"a\" \"b\"\n..foo\n..symbol 0 0 \"\"\n...unit 1\n....pin 1 1 \"\"\n....note 1 1 \"\"\n");
+        numbersAre(b, 2);
+        numbersAre(b, 3);
+        numbersAre(b, 4, 0, 0);
+        numbersAre(b, 5, 1);
+        numbersAre(b, 6, 1000000, 1000000, 0);
+        numbersAre(b, 7, 1000000, 1000000, 1270000);
     }
 
     private static void unknowns() {

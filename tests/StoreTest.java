@@ -18,6 +18,8 @@ public final class StoreTest {
         editionRoom();
         blockRoom();
         crashRoom();
+        copies();
+        logRoomOfNewBlocks();
         loaded();
         loadedWithRefusals();
         for (int n = 0; n < 150; n++) {
@@ -231,6 +233,53 @@ public final class StoreTest {
         answers(b, "crash(399)", one(b.mill.crash(399)), 1, 0);
         b.mill.reopen();
         answers(b, "save of one byte", b.mill.save(), 4, 0);
+    }
+
+    private static void copies() {
+        Bench b = new Bench();
+        b.sheets(1, "design 3\n.sheet 0 \"a\"\n..symbol 0 0 \"\"\n...unit 1\n....pin 0 0 \"\" 0\n....pin 1 0 \"\" 0\n"
+            + ".sheet 0 \"b\"\n..field \"of\" \"a\"\n.sheet 0 \"c\"\n..field \"of\" \"a\"\n");
+        b.mill.board(3, 3, 2, 0);
+        b.mill.put(1, 2, 1, 2, 1);
+        b.mill.put(0, 1, 0, 1, 2);
+        b.mill.save();
+        savedIs(b, 0, 1, 2, 1, 18, 0, 1, 0, 33);
+        b.mill.board(3, 3, 2, 0);
+        answers(b, "load", b.mill.load(0), 2, 0);
+        answers(b, "the copy has a pad", b.mill.put(1, 2, 0, 0, 0), -1, 4);
+        answers(b, "another one has none", b.mill.put(1, 1, 1, 2, 1), -1, 4);
+        answers(b, "another one has none", b.mill.put(1, 1, 0, 0, 0), 2, 0);
+    }
+
+    /** New blocks of 22 bytes and the end of an edition: the log has 400 bytes, and no more. */
+    private static void logRoomOfNewBlocks() {
+        Bench b = board(12);
+        for (int n = 0; n < 2; n++) {
+            b.mill.board(16, 16, 4, 0);
+            for (int t = 0; t < 40; t++) {
+                put(b, t / 8 * 12 + t % 8, n, t / 8, t % 8);
+            }
+            answers(b, "save of 177 bytes", b.mill.save(), n, 0);
+        }
+        b.mill.board(16, 16, 4, 0);
+        for (int t = 0; t < 5; t++) {
+            put(b, t * 12, 2, t, 0);
+        }
+        put(b, 1, 2, 0, 1);
+        put(b, 13, 2, 1, 1);
+        put(b, 25, 2, 2, 1);
+        put(b, 37, 2, 3, 1);
+        // 354 and 22 and 18 and 1
+        for (int n = 0; n < 6; n++) {
+            answers(b, "sweep", b.mill.sweep(), 0, 0);
+        }
+        answers(b, "save without room for a byte", b.mill.save(), -1, 1);
+        answers(b, "crash", one(b.mill.crash(359)), 1, 0);
+        answers(b, "reopen", b.mill.reopen(), 2, 0);
+        answers(b, "save that fills the log", b.mill.save(), 2, 0);
+        answers(b, "sweep", b.mill.sweep(), -1, 1);
+        answers(b, "crash", one(b.mill.crash(399)), 1, 0);
+        answers(b, "reopen", b.mill.reopen(), 2, 0);
     }
 
     private static void editionRoom() {

@@ -1977,18 +1977,16 @@ public final class BoardMill {
 
         /** The distance of the pad that is joined; NONE, and the net is blocked, when none can be. */
         private int joinNextPad(int net) {
-            boolean ripping = false;
             int pad = search(net, false);
             if (pad == NONE) {
                 board.nets.set(net, Board.BLOCKERS, blockersOf(net));
-                ripping = true;
                 pad = search(net, true);
             }
             if (pad == NONE) {
                 return NONE;
             }
             int distance = distances[board.padCell(pad)];
-            joinPad(net, board.padCell(pad), ripping);
+            joinPad(net, board.padCell(pad));
             return distance;
         }
 
@@ -2125,16 +2123,14 @@ public final class BoardMill {
         }
 
         /** Takes the way from a pad back to the tree into it; whose cells it goes over is ripped. */
-        private void joinPad(int net, int padCell, boolean ripping) {
+        private void joinPad(int net, int padCell) {
             int cell = padCell;
             int from = board.wayLength(net);
             for (int n = 0; n < CELLS && cell != NONE && !inTree[cell]; n++) {
                 board.addToWay(net, cell);
                 cell = backFrom(cell);
             }
-            if (ripping) {
-                rip(net, from);
-            }
+            rip(net, from);
             for (int k = from; k < board.wayLength(net); k++) {
                 inTree[board.wayCell(net, k)] = true;
                 board.holders[board.wayCell(net, k)] = net;
