@@ -455,8 +455,8 @@ public final class ScriptTest {
         b.mill.cut();
         b.mill.facts();
         runs(b, "facts of a cut", 60, 0, 12, 13, 0, 0, -1, 0, 0, 2, 2, 0, -1, 0, 1, 3, 2, 0, -1, 0, 1, 7, 1, 0, -1, 0, 0);
-        b.program("!@4:0;!@11:5;!@4:1;!@4:2;!@4:3;!@4:4;!@12:0;");
-        runs(b, "of no route nets", 60, 1, -1, -1, -1, -1, -1, -1);
+        b.program("!@4:0;!@11:5;!@4:1;!@4:2;!@4:3;!@4:4;!@4:5;!@12:0;");
+        runs(b, "of no route nets", 60, 1, -1, -1, -1, -1, -1, -1, -1);
         b.mill.route(1);
         b.mill.facts();
         b.program("f=1;*f<4{!@f:2;!@f:3;!@f:4;!@f:5;f=f+1;}");
